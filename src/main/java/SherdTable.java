@@ -52,13 +52,14 @@ public final class SherdTable {
     private final Sherd[] sherds = new Sherd[MOST_SHERDS];
     private final Outline[] outlines = new Outline[MOST_SHERDS];
     private final int[] parts = new int[MOST_SHERDS];
-    private final JoinBook joins;
-    private final Layout layout;
-    private final Claims claims;
+    private final JoinBook joins = new JoinBook();
+    private final Layout layout = new Layout();
+    private final Claims claims = new Claims();
     private final SpanList found = new SpanList(SPANS_KEPT);
     private final SpanList sure = new SpanList(MOST_SURE);
     private final Span tried = new Span();
     private final Span oneBack = new Span();
+    private final Pairs handed = new Pairs();
     private final int[] liesOn = {NONE, NONE, NONE};
 
     private int sherdCount = 0;
@@ -75,9 +76,6 @@ public final class SherdTable {
             sherds[k] = new Sherd(k);
             outlines[k] = new Outline();
         }
-        joins = new JoinBook(sherds);
-        layout = new Layout(sherds);
-        claims = new Claims(sherds);
     }
 
     public int sherd(int kind) {
@@ -87,7 +85,7 @@ public final class SherdTable {
         int number = sherdCount;
         sherds[number].kind = KINDS[kind];
         sherdCount = number + 1;
-        layAgain();
+        layout.layAll(sherds, sherdCount, joins);
         return number;
     }
 
@@ -123,7 +121,7 @@ public final class SherdTable {
         if (!canChange(sherd, step) || !sherds[sherd].kind.takesMarks()) {
             return false;
         }
-        sherds[sherd].marks[step] = on;
+        sherds[sherd].setMark(step, on);
         return true;
     }
 
@@ -220,7 +218,7 @@ public final class SherdTable {
         switch (what) {
             case 0: return one.directions[step];
             case 1: return one.lengths[step];
-            case 2: return one.isBreak(step) ? 1 : 0;
+            case 2: return one.breaks[step] ? 1 : 0;
             case 3: return one.colours[step];
             case 4: return one.joinOf[step];
             default: throw new NoSuchElementException("no such what");
@@ -311,22 +309,20 @@ public final class SherdTable {
         if (n < 1 || n > Math.min(sherds[a].steps, sherds[b].steps)) {
             return NO_SPAN;
         }
-        Pairs pairs = tried;
         if (a < b) {
-            pairs.put(a, i, b, j, turnToFace(a, i, b, j));
+            handed.putFacing(sherds[a], i, sherds[b], j, n);
         } else {
-            pairs.put(b, j, a, i, turnToFace(b, j, a, i));
+            handed.putFacing(sherds[b], j, sherds[a], i, n);
         }
-        pairs.n = n;
-        if (joins.hasAnyStepOf(pairs)) {
+        if (isAnyStepJoined(handed)) {
             return NO_SPAN;
         }
         int number = joins.firstFree();
         if (number == NONE) {
             return TOO_MANY;
         }
-        joins.write(number, pairs, true);
-        layAgain();
+        joins.write(number, handed, true, sherds);
+        layout.layAll(sherds, sherdCount, joins);
         return number;
     }
 
@@ -334,8 +330,8 @@ public final class SherdTable {
         if (!joins.has(join)) {
             return NONE;
         }
-        joins.strike(join);
-        layAgain();
+        joins.strike(join, sherds);
+        layout.layAll(sherds, sherdCount, joins);
         return layout.groupCount;
     }
 
@@ -352,7 +348,7 @@ public final class SherdTable {
             case 4: return one.t;
             case 5: return one.n;
             case 6: return one.byHand ? 1 : 0;
-            case 7: return layout.missOf(one);
+            case 7: return layout.missOf(one, sherds);
             default: return NONE;
         }
     }
@@ -399,9 +395,9 @@ public final class SherdTable {
             return NONE;
         }
         for (int k = 0; k < n; k++) {
-            joins.strike(joins.latest());
+            joins.strike(joins.latest(), sherds);
         }
-        layAgain();
+        layout.layAll(sherds, sherdCount, joins);
         return joins.count;
     }
 
@@ -457,10 +453,6 @@ public final class SherdTable {
         return (((size & FLOAT_FRACTION_BITS) | FLOAT_HIDDEN_BIT) * 10) >> shift;
     }
 
-    private void layAgain() {
-        layout.layAll(sherdCount, joins);
-    }
-
     private void measure(int a, int i, int b, int j, int t) {
         if (a < b) {
             tried.measure(sherds[a], i, sherds[b], j, t);
@@ -483,21 +475,14 @@ public final class SherdTable {
         int count = 0;
         for (int i = 0; i < a.steps; i++) {
             for (int j = 0; j < b.steps; j++) {
-                if (a.isFree(i) && b.isFree(j)) {
-                    count += walkTurns(a, i, b, j, taker);
+                int turns = a.canPair(i, b, j) ? TURNS : 0;
+                for (int t = 0; t < turns; t++) {
+                    tried.measure(a, i, b, j, t);
+                    if (isSpan(tried)) {
+                        taker.take(tried);
+                        count++;
+                    }
                 }
-            }
-        }
-        return count;
-    }
-
-    private int walkTurns(Sherd a, int i, Sherd b, int j, SpanTaker taker) {
-        int count = 0;
-        for (int t = 0; t < TURNS; t++) {
-            tried.measure(a, i, b, j, t);
-            if (isSpan(tried)) {
-                taker.take(tried);
-                count++;
             }
         }
         return count;
@@ -533,8 +518,13 @@ public final class SherdTable {
         return true;
     }
 
-    private int turnToFace(int a, int i, int b, int j) {
-        return Math.floorMod(sherds[a].directions[i] - sherds[b].directions[j] - HALF_TURN, TURNS);
+    private boolean isAnyStepJoined(Pairs pairs) {
+        for (int k = 0; k < pairs.n; k++) {
+            if (sherds[pairs.a].joinOf[pairs.stepOfA(k)] != NONE || sherds[pairs.b].joinOf[pairs.stepOfB(k)] != NONE) {
+                return true;
+            }
+        }
+        return false;
     }
 
     /** Refusals 3 to 6 of a SPAN, or its number as a JOIN. */
@@ -548,16 +538,16 @@ public final class SherdTable {
         if (number == NONE) {
             return TOO_MANY;
         }
-        if (rootA == rootB && layout.missOf(wanted) > mostRound) {
-            latestRound = layout.missOf(wanted);
+        if (rootA == rootB && layout.missOf(wanted, sherds) > mostRound) {
+            latestRound = layout.missOf(wanted, sherds);
             return NOT_ROUND;
         }
         // A JOIN that comes round may also change by what the others are laid: it is laid to be looked at.
-        joins.write(number, wanted, false);
-        layAgain();
+        joins.write(number, wanted, false, sherds);
+        layout.layAll(sherds, sherdCount, joins);
         if (anyLiesOnAnother(layout.roots[wanted.a])) {
-            joins.strike(number);
-            layAgain();
+            joins.strike(number, sherds);
+            layout.layAll(sherds, sherdCount, joins);
             return LIES_ON;
         }
         return number;
@@ -576,30 +566,29 @@ public final class SherdTable {
     }
 
     private boolean anyLiesOnAnother(int root) {
-        for (int k = 0; k < sherdCount; k++) {
-            if (layout.roots[k] == root) {
-                outlines[k].draw(sherds[k], layout.turns[k], layout.xs[k], layout.ys[k]);
-            }
-        }
+        drawGroup(root);
         for (int low = 0; low < sherdCount; low++) {
             for (int high = low + 1; high < sherdCount; high++) {
-                if (layout.roots[low] == root && layout.roots[high] == root && lieOnOneAnother(low, high)) {
-                    return true;
+                if (layout.roots[low] == root && layout.roots[high] == root) {
+                    int points = outlines[low].pointsSharedWith(outlines[high]);
+                    if (points > mostShare) {
+                        liesOn[0] = low;
+                        liesOn[1] = high;
+                        liesOn[2] = points;
+                        return true;
+                    }
                 }
             }
         }
         return false;
     }
 
-    private boolean lieOnOneAnother(int low, int high) {
-        int points = outlines[low].pointsSharedWith(outlines[high]);
-        if (points <= mostShare) {
-            return false;
+    private void drawGroup(int root) {
+        for (int k = 0; k < sherdCount; k++) {
+            if (layout.roots[k] == root) {
+                outlines[k].draw(sherds[k], layout.turns[k], layout.xs[k], layout.ys[k]);
+            }
         }
-        liesOn[0] = low;
-        liesOn[1] = high;
-        liesOn[2] = points;
-        return true;
     }
 
     private boolean joinFirstSure() {
@@ -632,7 +621,8 @@ public final class SherdTable {
         for (int a = 0; a < sherdCount; a++) {
             for (int i = 0; i < sherds[a].steps; i++) {
                 if (claims.isBegunBySole(a, i)) {
-                    claims.measureSole(a, i, tried);
+                    Sherd other = sherds[claims.otherOf(a, i)];
+                    tried.measure(sherds[a], i, other, claims.stepOfOther(a, i), claims.turnOf(a, i));
                     if (claims.areAllOf(tried)) {
                         sure.take(tried);
                     }
@@ -714,7 +704,7 @@ public final class SherdTable {
         final int[] lengths = new int[MOST_STEPS];
         final int[] colours = new int[MOST_STEPS];
         final int[] joinOf = new int[MOST_STEPS];
-        final boolean[] marks = new boolean[MOST_STEPS];
+        final boolean[] breaks = new boolean[MOST_STEPS];
         Kind kind = Kind.SHERD;
         int steps = 0;
         boolean closed = false;
@@ -730,16 +720,25 @@ public final class SherdTable {
             if (steps < MOST_STEPS) {
                 directions[steps] = direction;
                 lengths[steps] = length;
+                breaks[steps] = kind.plainBreaks;
                 steps++;
             }
         }
 
-        boolean isBreak(int step) {
-            return marks[step] ? kind.markedBreaks : kind.plainBreaks;
+        void setMark(int step, boolean on) {
+            breaks[step] = on ? kind.markedBreaks : kind.plainBreaks;
         }
 
         boolean isFree(int step) {
-            return joinOf[step] == NONE && isBreak(step);
+            return joinOf[step] == NONE && breaks[step];
+        }
+
+        boolean canPair(int step, Sherd other, int stepOfOther) {
+            if (!isFree(step) || !other.isFree(stepOfOther)) {
+                return false;
+            }
+            boolean bothShow = kind.shows && other.kind.shows;
+            return !bothShow || colours[step] == other.colours[stepOfOther];
         }
 
         int behind(int step) {
@@ -808,18 +807,44 @@ public final class SherdTable {
         int j = 0;
         int t = 0;
         int n = 0;
+        int stepsOfA = 0;
+        int stepsOfB = 0;
 
-        final void put(int lesser, int stepOfLesser, int other, int stepOfOther, int turn) {
-            a = lesser;
-            i = stepOfLesser;
-            b = other;
+        final void put(Sherd lesser, int step, Sherd other, int stepOfOther, int turn) {
+            a = lesser.number;
+            i = step;
+            b = other.number;
             j = stepOfOther;
             t = turn;
+            stepsOfA = lesser.steps;
+            stepsOfB = other.steps;
         }
 
-        final void copy(Pairs other) {
-            put(other.a, other.i, other.b, other.j, other.t);
-            n = other.n;
+        final void putFacing(Sherd lesser, int step, Sherd other, int stepOfOther, int pairs) {
+            int turn = lesser.directions[step] - other.directions[stepOfOther] - HALF_TURN;
+            put(lesser, step, other, stepOfOther, Math.floorMod(turn, TURNS));
+            n = pairs;
+        }
+
+        final void copyPairs(Pairs from) {
+            a = from.a;
+            i = from.i;
+            b = from.b;
+            j = from.j;
+            t = from.t;
+            n = from.n;
+            stepsOfA = from.stepsOfA;
+            stepsOfB = from.stepsOfB;
+        }
+
+        final int stepOfA(int pair) {
+            int step = i + pair;
+            return step < stepsOfA ? step : step - stepsOfA;
+        }
+
+        final int stepOfB(int pair) {
+            int step = j - pair;
+            return step >= 0 ? step : step + stepsOfB;
         }
     }
 
@@ -827,20 +852,23 @@ public final class SherdTable {
         int longness = 0;
         int miss = 0;
 
-        void measure(Sherd lesser, int stepOfLesser, Sherd other, int stepOfOther, int turn) {
-            put(lesser.number, stepOfLesser, other.number, stepOfOther, turn);
-            int most = Math.min(lesser.steps, other.steps);
+        void measure(Sherd lesser, int step, Sherd other, int stepOfOther, int turn) {
+            put(lesser, step, other, stepOfOther, turn);
+            int most = Math.min(stepsOfA, stepsOfB);
             int slack = Math.max(lesser.kind.slack, other.kind.slack);
             int back = turn + HALF_TURN;
             int longOfLesser = 0;
             int longOfOther = 0;
             int x = 0;
             int y = 0;
-            int k = stepOfLesser;
-            int m = stepOfOther;
             n = 0;
             miss = 0;
-            while (n < most && canPair(lesser, k, other, m)) {
+            while (n < most) {
+                int k = stepOfA(n);
+                int m = stepOfB(n);
+                if (!lesser.canPair(k, other, m)) {
+                    break;
+                }
                 x += lesser.goesX(k, 0) - other.goesX(m, back);
                 y += lesser.goesY(k, 0) - other.goesY(m, back);
                 int farApart = greater(x, y);
@@ -850,19 +878,9 @@ public final class SherdTable {
                 miss = Math.max(miss, farApart);
                 longOfLesser += lesser.lengths[k];
                 longOfOther += other.lengths[m];
-                k = lesser.behind(k);
-                m = other.before(m);
                 n++;
             }
             longness = Math.min(longOfLesser, longOfOther);
-        }
-
-        private static boolean canPair(Sherd lesser, int k, Sherd other, int m) {
-            if (!lesser.isFree(k) || !other.isFree(m)) {
-                return false;
-            }
-            boolean bothShow = lesser.kind.shows && other.kind.shows;
-            return !bothShow || lesser.colours[k] == other.colours[m];
         }
 
         boolean goesAheadOf(Span other) {
@@ -884,10 +902,10 @@ public final class SherdTable {
             return j != other.j ? j < other.j : t < other.t;
         }
 
-        void copySpan(Span other) {
-            copy(other);
-            longness = other.longness;
-            miss = other.miss;
+        void copySpan(Span from) {
+            copyPairs(from);
+            longness = from.longness;
+            miss = from.miss;
         }
     }
 
@@ -941,15 +959,10 @@ public final class SherdTable {
      * spans need be kept: a span is SURE where it is alone the longest at each of its steps.
      */
     private static final class Claims implements SpanTaker {
-        private final Sherd[] sherds;
         private final int[] longest = new int[ALL_STEPS];
         private final int[] asLong = new int[ALL_STEPS];
         /** The b, j, t of the longest span where it begins with this step as its i; else NONE. */
         private final int[] begun = new int[ALL_STEPS];
-
-        Claims(Sherd[] sherds) {
-            this.sherds = sherds;
-        }
 
         void clear() {
             Arrays.fill(longest, 0);
@@ -958,15 +971,14 @@ public final class SherdTable {
         }
 
         public void take(Span span) {
-            int k = span.i;
-            int m = span.j;
             for (int pair = 0; pair < span.n; pair++) {
-                int code = pair == 0 ? (span.b * MOST_STEPS + span.j) * TURNS + span.t : NONE;
-                claim(slotOf(span.a, k), span.longness, code);
-                claim(slotOf(span.b, m), span.longness, NONE);
-                k = sherds[span.a].behind(k);
-                m = sherds[span.b].before(m);
+                claim(slotOf(span.a, span.stepOfA(pair)), span.longness, pair == 0 ? codeOf(span) : NONE);
+                claim(slotOf(span.b, span.stepOfB(pair)), span.longness, NONE);
             }
+        }
+
+        private static int codeOf(Span span) {
+            return slotOf(span.b, span.j) * TURNS + span.t;
         }
 
         private void claim(int slot, int longness, int code) {
@@ -984,23 +996,24 @@ public final class SherdTable {
             return asLong[slot] == 1 && begun[slot] != NONE;
         }
 
-        void measureSole(int sherd, int step, Span span) {
-            int code = begun[slotOf(sherd, step)];
-            int t = code % TURNS;
-            int slotOfOther = code / TURNS;
-            Sherd other = sherds[slotOfOther / MOST_STEPS];
-            span.measure(sherds[sherd], step, other, slotOfOther % MOST_STEPS, t);
+        int otherOf(int sherd, int step) {
+            return begun[slotOf(sherd, step)] / TURNS / MOST_STEPS;
+        }
+
+        int stepOfOther(int sherd, int step) {
+            return begun[slotOf(sherd, step)] / TURNS % MOST_STEPS;
+        }
+
+        int turnOf(int sherd, int step) {
+            return begun[slotOf(sherd, step)] % TURNS;
         }
 
         boolean areAllOf(Span span) {
-            int k = span.i;
-            int m = span.j;
             for (int pair = 0; pair < span.n; pair++) {
-                if (!isSole(slotOf(span.a, k), span.longness) || !isSole(slotOf(span.b, m), span.longness)) {
+                if (!isSole(slotOf(span.a, span.stepOfA(pair)), span.longness)
+                        || !isSole(slotOf(span.b, span.stepOfB(pair)), span.longness)) {
                     return false;
                 }
-                k = sherds[span.a].behind(k);
-                m = sherds[span.b].before(m);
             }
             return true;
         }
@@ -1015,13 +1028,11 @@ public final class SherdTable {
     }
 
     private static final class JoinBook {
-        private final Sherd[] sherds;
         final Join[] slots = new Join[MOST_JOINS];
         int count = 0;
         private int latestStamp = 0;
 
-        JoinBook(Sherd[] sherds) {
-            this.sherds = sherds;
+        JoinBook() {
             for (int k = 0; k < MOST_JOINS; k++) {
                 slots[k] = new Join();
             }
@@ -1050,56 +1061,34 @@ public final class SherdTable {
             return latest;
         }
 
-        void write(int number, Pairs pairs, boolean byHand) {
+        void write(int number, Pairs pairs, boolean byHand, Sherd[] sherds) {
             Join one = slots[number];
-            one.copy(pairs);
+            one.copyPairs(pairs);
             one.byHand = byHand;
             latestStamp++;
             one.stamp = latestStamp;
             count++;
-            setSteps(one, number);
+            setSteps(one, number, sherds);
         }
 
-        void strike(int number) {
+        void strike(int number, Sherd[] sherds) {
             if (has(number)) {
                 slots[number].stamp = 0;
                 count--;
-                setSteps(slots[number], NONE);
+                setSteps(slots[number], NONE, sherds);
             }
         }
 
-        private void setSteps(Pairs pairs, int number) {
-            Sherd a = sherds[pairs.a];
-            Sherd b = sherds[pairs.b];
-            int k = pairs.i;
-            int m = pairs.j;
-            for (int pair = 0; pair < pairs.n; pair++) {
-                a.joinOf[k] = number;
-                b.joinOf[m] = number;
-                k = a.behind(k);
-                m = b.before(m);
+        private static void setSteps(Pairs pairs, int number, Sherd[] sherds) {
+            for (int k = 0; k < pairs.n; k++) {
+                sherds[pairs.a].joinOf[pairs.stepOfA(k)] = number;
+                sherds[pairs.b].joinOf[pairs.stepOfB(k)] = number;
             }
-        }
-
-        boolean hasAnyStepOf(Pairs pairs) {
-            Sherd a = sherds[pairs.a];
-            Sherd b = sherds[pairs.b];
-            int k = pairs.i;
-            int m = pairs.j;
-            for (int pair = 0; pair < pairs.n; pair++) {
-                if (a.joinOf[k] != NONE || b.joinOf[m] != NONE) {
-                    return true;
-                }
-                k = a.behind(k);
-                m = b.before(m);
-            }
-            return false;
         }
     }
 
     /** Where each sherd lies in its GROUP. */
     private static final class Layout {
-        private final Sherd[] sherds;
         final int[] roots = new int[MOST_SHERDS];
         final int[] turns = new int[MOST_SHERDS];
         final int[] xs = new int[MOST_SHERDS];
@@ -1108,46 +1097,40 @@ public final class SherdTable {
         private int laid = 0;
         int groupCount = 0;
 
-        Layout(Sherd[] sherds) {
-            this.sherds = sherds;
-            Arrays.fill(roots, NONE);
-        }
-
-        void layAll(int sherdCount, JoinBook joins) {
+        void layAll(Sherd[] sherds, int sherdCount, JoinBook joins) {
             Arrays.fill(roots, NONE);
             groupCount = 0;
             laid = 0;
+            int next = 0;
             for (int root = 0; root < sherdCount; root++) {
                 if (roots[root] == NONE) {
-                    int first = laid;
                     lay(root, root, 0);
                     xs[root] = 0;
                     ys[root] = 0;
                     groupCount++;
-                    layFrom(first, joins);
+                }
+                while (next < laid) {
+                    layNeighboursOf(inOrder[next], sherds, joins);
+                    next++;
                 }
             }
         }
 
-        private void layFrom(int first, JoinBook joins) {
-            for (int next = first; next < laid; next++) {
-                for (int k = 0; k < MOST_JOINS; k++) {
-                    if (joins.has(k)) {
-                        layBy(joins.slots[k], inOrder[next]);
-                    }
+        private void layNeighboursOf(int by, Sherd[] sherds, JoinBook joins) {
+            for (int k = 0; k < MOST_JOINS; k++) {
+                Join join = joins.slots[k];
+                if (!joins.has(k)) {
+                    continue;
                 }
-            }
-        }
-
-        private void layBy(Join join, int by) {
-            if (join.a == by && roots[join.b] == NONE) {
-                lay(join.b, roots[by], turns[by] + join.t);
-                xs[join.b] = xs[by] + offsetX(join);
-                ys[join.b] = ys[by] + offsetY(join);
-            } else if (join.b == by && roots[join.a] == NONE) {
-                lay(join.a, roots[by], turns[by] - join.t);
-                xs[join.a] = xs[by] - offsetX(join);
-                ys[join.a] = ys[by] - offsetY(join);
+                if (join.a == by && roots[join.b] == NONE) {
+                    lay(join.b, roots[by], turns[by] + join.t);
+                    xs[join.b] = xs[by] + offsetX(join, sherds);
+                    ys[join.b] = ys[by] + offsetY(join, sherds);
+                } else if (join.b == by && roots[join.a] == NONE) {
+                    lay(join.a, roots[by], turns[by] - join.t);
+                    xs[join.a] = xs[by] - offsetX(join, sherds);
+                    ys[join.a] = ys[by] - offsetY(join, sherds);
+                }
             }
         }
 
@@ -1161,21 +1144,23 @@ public final class SherdTable {
         }
 
         /** How far b's beginning is from a's where the pairs come together, both turned as they are. */
-        private int offsetX(Pairs pairs) {
+        private int offsetX(Pairs pairs, Sherd[] sherds) {
             return sherds[pairs.a].placeX(pairs.i, turns[pairs.a])
                     - sherds[pairs.b].placeX(pairs.j + 1, turns[pairs.b]);
         }
 
-        private int offsetY(Pairs pairs) {
+        private int offsetY(Pairs pairs, Sherd[] sherds) {
             return sherds[pairs.a].placeY(pairs.i, turns[pairs.a])
                     - sherds[pairs.b].placeY(pairs.j + 1, turns[pairs.b]);
         }
 
-        int missOf(Pairs pairs) {
+        int missOf(Pairs pairs, Sherd[] sherds) {
             if ((turns[pairs.a] + pairs.t) % TURNS != turns[pairs.b]) {
                 return TURNED_OTHERWISE;
             }
-            return greater(xs[pairs.a] + offsetX(pairs) - xs[pairs.b], ys[pairs.a] + offsetY(pairs) - ys[pairs.b]);
+            int x = xs[pairs.a] + offsetX(pairs, sherds) - xs[pairs.b];
+            int y = ys[pairs.a] + offsetY(pairs, sherds) - ys[pairs.b];
+            return greater(x, y);
         }
     }
 
