@@ -366,7 +366,12 @@ public final class SherdTable {
 
     public int order() {
         int made = 0;
-        while (made < MOST_JOINS && joinFirstSure()) {
+        while (made < MOST_JOINS && joins.firstFree() != NONE) {
+            claimAllSteps();
+            gatherSure();
+            if (!joinFirstSure()) {
+                break;
+            }
             made++;
         }
         return made;
@@ -475,14 +480,29 @@ public final class SherdTable {
         int count = 0;
         for (int i = 0; i < a.steps; i++) {
             for (int j = 0; j < b.steps; j++) {
-                int turns = a.canPair(i, b, j) ? TURNS : 0;
-                for (int t = 0; t < turns; t++) {
-                    tried.measure(a, i, b, j, t);
-                    if (isSpan(tried)) {
-                        taker.take(tried);
-                        count++;
-                    }
+                if (a.canPair(i, b, j)) {
+                    count += walkTurns(a, i, b, j, taker);
                 }
+            }
+        }
+        return count;
+    }
+
+    /** Most turns fail at the first pair: that is looked at ahead of the measuring, for speed alone. */
+    private int walkTurns(Sherd a, int i, Sherd b, int j, SpanTaker taker) {
+        int x = a.goesX(i, 0);
+        int y = a.goesY(i, 0);
+        int slack = a.slackWith(b);
+        int count = 0;
+        for (int t = 0; t < TURNS; t++) {
+            int back = t + HALF_TURN;
+            if (Math.abs(x - b.goesX(j, back)) > slack || Math.abs(y - b.goesY(j, back)) > slack) {
+                continue;
+            }
+            tried.measure(a, i, b, j, t);
+            if (isSpan(tried)) {
+                taker.take(tried);
+                count++;
             }
         }
         return count;
@@ -592,11 +612,6 @@ public final class SherdTable {
     }
 
     private boolean joinFirstSure() {
-        if (joins.firstFree() == NONE) {
-            return false;
-        }
-        claimAllSteps();
-        gatherSure();
         for (int k = 0; k < sure.size; k++) {
             if (tryToJoin(sure.kept[k]) >= 0) {
                 return true;
@@ -729,12 +744,15 @@ public final class SherdTable {
             breaks[step] = on ? kind.markedBreaks : kind.plainBreaks;
         }
 
-        boolean isFree(int step) {
-            return joinOf[step] == NONE && breaks[step];
+        int slackWith(Sherd other) {
+            return Math.max(kind.slack, other.kind.slack);
         }
 
         boolean canPair(int step, Sherd other, int stepOfOther) {
-            if (!isFree(step) || !other.isFree(stepOfOther)) {
+            if (!breaks[step] || !other.breaks[stepOfOther]) {
+                return false;
+            }
+            if (joinOf[step] != NONE || other.joinOf[stepOfOther] != NONE) {
                 return false;
             }
             boolean bothShow = kind.shows && other.kind.shows;
@@ -855,7 +873,7 @@ public final class SherdTable {
         void measure(Sherd lesser, int step, Sherd other, int stepOfOther, int turn) {
             put(lesser, step, other, stepOfOther, turn);
             int most = Math.min(stepsOfA, stepsOfB);
-            int slack = Math.max(lesser.kind.slack, other.kind.slack);
+            int slack = lesser.slackWith(other);
             int back = turn + HALF_TURN;
             int longOfLesser = 0;
             int longOfOther = 0;
