@@ -230,6 +230,8 @@ public final class PromisesTest {
         closed(x, 0, 6, 1, 6, 1, 0, 2);
         open(x, 0, 2, 1, 2, 1, 1, 1);
         due("close, missing by 866 + 866 + 966", x.close(6), 2698);
+        open(x, 0, 0, 9, 9, 5, 14, 4);
+        due("close, missing by one more than GAP", x.close(7), 2001);
     }
 
     private static void promise5() {
@@ -477,6 +479,12 @@ public final class PromisesTest {
         due("look(1, 9)", look(x, 1, 9), 2);
         due("look(2, 9)", look(x, 2, 9), 1);
         due("look(3, 9)", look(x, 3, 9), 0);
+        SherdTable y = squares(3);
+        due("join(0, 1, 2, 2, 6)", y.join(0, 1, 2, 2, 6), 0);
+        where(y, 2, 6, 20000, 0);
+        due("join(1, 1, 2, 0, 18)", y.join(1, 1, 2, 0, 18), 1);
+        where(y, 1, 12, 30000, 10000);
+        due("joined(1, 7)", y.joined(1, 7), 0);
     }
 
     /** The one laid first lays all it can, by its JOINS with the least numbers, before the next one does. */
@@ -589,8 +597,12 @@ public final class PromisesTest {
         closed(y, 0, 0, 7, 8, 7, 16, 7);
         closed(y, 0, 12, 7, 4, 7, 20, 7, 12, 1);
         due("fit up to the short step", y.fit(0, 0, 1, 0, 0), 1);
-        due("fit, no more than the lesser edge", y.fit(0, 1, 1, 2, 0), 3);
+        due("fit(0, 1, 1, 2, 0)", y.fit(0, 1, 1, 2, 0), 3);
         due("fitted(0)", y.fitted(0), 21);
+        SherdTable z = new SherdTable();
+        triangle(z, 0, 1);
+        closed(z, 0, 12, 1, 4, 1, 20, 1, 12, 1);
+        due("fit, no more than the lesser edge", z.fit(0, 0, 1, 3, 0), 3);
     }
 
     private static void fitSlack() {
@@ -612,6 +624,26 @@ public final class PromisesTest {
         triangle(z, 5, 1);
         triangle(z, 0, 1);
         due("fit, the lesser one is Worn", z.fit(0, 0, 1, 0, 20), 3);
+        fitAtTheSlackItself();
+    }
+
+    private static void fitAtTheSlackItself() {
+        for (int kind = 0; kind < 5; kind++) {
+            SherdTable x = new SherdTable();
+            closed(x, kind, 0, 1, 4, 1, 14, 1);
+            closed(x, kind, 17, 1, 14, 1, 2, 1);
+            for (int k = 0; kind == 4 && k < 3; k++) {
+                x.mark(0, k, true);
+                x.mark(1, k, true);
+            }
+            due("fit, 600 apart, KIND " + kind, x.fit(0, 0, 1, 1, 0), 3);
+            due("fitted(1)", x.fitted(1), 600);
+        }
+        SherdTable y = new SherdTable();
+        closed(y, 5, 0, 1, 2, 6, 14, 6);
+        closed(y, 5, 15, 6, 13, 1, 3, 6);
+        due("fit, 1501 apart, both Worn", y.fit(0, 0, 1, 1, 0), 1);
+        due("fitted(1)", y.fitted(1), 259);
     }
 
     private static void fitNeedsBreaksAndColours() {
@@ -848,6 +880,25 @@ public final class PromisesTest {
         due("edge(0, 3, 4)", edge(x, 0, 3, 4), -1);
         due("edge(1, 5, 4)", edge(x, 1, 5, 4), 0);
         due("edge(1, 2, 4)", edge(x, 1, 2, 4), -1);
+        spanThatGoesOnRound();
+    }
+
+    /** What fits goes on past the last step to the first, of either sherd: it is a SPAN from where it begins. */
+    private static void spanThatGoesOnRound() {
+        SherdTable x = new SherdTable();
+        square(x, 0, 5);
+        closed(x, 0, 12, 5, 6, 5, 0, 5, 18, 5);
+        x.tell(0, 1);
+        due("hand(0, 2, 1, 2, 1)", x.hand(0, 2, 1, 2, 1), 0);
+        due("fit(0, 3, 1, 1, 0)", x.fit(0, 3, 1, 1, 0), 3);
+        due("join from its second pair on", x.join(0, 0, 1, 0, 0), -2);
+        due("join from its third pair on", x.join(0, 1, 1, 3, 0), -2);
+        due("join from its first pair on", x.join(0, 3, 1, 1, 0), -6);
+        due("lies(2)", x.lies(2), 25);
+        x.tell(3, 25);
+        due("join with SHARE 25", x.join(0, 3, 1, 1, 0), 1);
+        due("look(0, 9)", look(x, 0, 9), 4);
+        due("look(1, 9)", look(x, 1, 9), 4);
     }
 
     private static void joinOfNoOnePot() {
@@ -861,6 +912,15 @@ public final class PromisesTest {
         due("join of GROUPS of no one pot", x.join(1, 1, 2, 3, 0), -3);
         due("hand of the same", x.hand(1, 1, 2, 3, 1), 2);
         due("join within a GROUP", x.join(0, 1, 3, 3, 0), -5);
+        SherdTable y = new SherdTable();
+        square(y, 2, 10);
+        square(y, 2, 10);
+        square(y, 0, 10);
+        due("join(0, 0, 2, 2, 0)", y.join(0, 0, 2, 2, 0), 0);
+        due("join to a GROUP with another Base", y.join(1, 1, 2, 3, 0), -3);
+        due("join(0, 1, 1, 3, 0)", y.join(0, 1, 1, 3, 0), -3);
+        due("round()", y.round(), -1);
+        due("lies(0)", y.lies(0), -1);
     }
 
     private static void joinWhenThereAreForty() {
@@ -936,6 +996,13 @@ public final class PromisesTest {
         due("joined(1, 4)", x.joined(1, 4), 13);
         due("joined(1, 7)", x.joined(1, 7), 1000000000);
         due("round()", x.round(), -1);
+        SherdTable y = new SherdTable();
+        triangle(y, 0, 5);
+        square(y, 0, 5);
+        due("hand, more than the lesser edge", y.hand(1, 1, 0, 1, 4), -2);
+        due("hand, all of the lesser edge", y.hand(1, 1, 0, 1, 3), 0);
+        due("look(0, 9)", look(y, 0, 9), 3);
+        due("edge(1, 2, 4)", edge(y, 1, 2, 4), -1);
     }
 
     private static void promise21() {
@@ -1007,10 +1074,25 @@ public final class PromisesTest {
         x.tell(2, 10000);
         due("join, missing by ROUND", x.join(0, 1, 1, 3, 0), 1);
         due("joined(1, 7)", x.joined(1, 7), 10000);
+        roundAtFirst();
         SherdTable y = oneSpanApart();
         due("hand(0, 2, 1, 2, 1)", y.hand(0, 2, 1, 2, 1), 0);
         due("order()", y.order(), 0);
         due("round() by order()", y.round(), 5388);
+    }
+
+    /** By hand steps of unlike lengths, so that the next pair, which would fit, comes round and misses. */
+    private static void roundAtFirst() {
+        for (int k = 3; k < 5; k++) {
+            SherdTable x = new SherdTable();
+            closed(x, 0, 0, 1 + k, 0, 8, 6, 10, 12, 9 + k - 2, 12, 2, 18, 10);
+            closed(x, 0, 0, 9, 6, 10, 12, 8, 12, 1, 18, 10);
+            due("hand(0, 0, 1, 3, 1)", x.hand(0, 0, 1, 3, 1), 0);
+            where(x, 1, 0, 0, -10000);
+            due("join with ROUND 3000", x.join(0, 1, 1, 2, 0), k == 3 ? 1 : -5);
+            due("round()", x.round(), k == 3 ? -1 : 4000);
+            due("joined(1, 7)", x.joined(1, 7), k == 3 ? 3000 : -1);
+        }
     }
 
     /** Two whose only SPAN is that of their steps 0, turned by 12. */
@@ -1159,6 +1241,70 @@ public final class PromisesTest {
         where(x, 1, 0, 0, -12000);
         where(x, 2, 0, -10000, -12000);
         due("groups()", x.groups(), 1);
+        orderOfEqualSpans();
+    }
+
+    /** Colours let three steps fit, each one other: all alike but for a, b, i, by which they are ordered. */
+    private static void orderOfEqualSpans() {
+        SherdTable x = new SherdTable();
+        int[][] colours = {{1, 2, 3, 3}, {5, 4, 2, 4}, {7, 7, 5, 7}, {6, 6, 1, 6}};
+        for (int s = 0; s < 4; s++) {
+            square(x, 3, 10);
+            for (int k = 0; k < 4; k++) {
+                yes("paint", x.paint(s, k, colours[s][k]));
+            }
+        }
+        due("order()", x.order(), 3);
+        long[][] want = {{0, 1, 1, 2, 6}, {0, 0, 3, 2, 0}, {1, 0, 2, 2, 0}};
+        for (int k = 0; k < 3; k++) {
+            for (int what = 0; what < 5; what++) {
+                due("joined(" + k + ", " + what + ")", x.joined(k, what), want[k][what]);
+            }
+        }
+        longerOnesHinder();
+        fullTable();
+    }
+
+    /** A longer SPAN on one of its steps, or one as long, keeps another from being SURE. */
+    private static void longerOnesHinder() {
+        SherdTable x = new SherdTable();
+        square(x, 3, 10);
+        closed(x, 3, 0, 12, 6, 10, 12, 12, 18, 10);
+        closed(x, 3, 0, 12, 6, 11, 12, 12, 18, 11);
+        int[][] colours = {{1, 2, 2, 2}, {3, 1, 4, 5}, {4, 6, 6, 6}};
+        for (int s = 0; s < 3; s++) {
+            for (int k = 0; k < 4; k++) {
+                yes("paint", x.paint(s, k, colours[s][k]));
+            }
+        }
+        due("order()", x.order(), 2);
+        due("joined(0, 0), the longer one", x.joined(0, 0), 1);
+        due("joined(0, 2)", x.joined(0, 2), 2);
+        due("joined(1, 0)", x.joined(1, 0), 0);
+        due("undo(2)", x.undo(2), 0);
+        yes("paint(1, 3, 1), as long on the same step", x.paint(1, 3, 1));
+        due("order()", x.order(), 1);
+        due("joined(0, 0)", x.joined(0, 0), 1);
+        due("groups()", x.groups(), 2);
+    }
+
+    /** As many sherds and steps as there may be: all are alike, so that none is SURE. */
+    private static void fullTable() {
+        SherdTable x = new SherdTable();
+        for (int s = 0; s < 12; s++) {
+            x.sherd(s % 2 == 0 ? 5 : 0);
+            for (int k = 0; k < 20; k++) {
+                int up = k < 10 ? 5 : 7;
+                due("step " + k, x.step(s, k % 2 == 0 ? up : 24 - up, 12), k + 1);
+            }
+            due("close(" + s + ")", x.close(s), 0);
+        }
+        due("order()", x.order(), 0);
+        due("hand(10, 0, 11, 19, 20)", x.hand(10, 0, 11, 19, 20), 0);
+        due("look(11, 9)", look(x, 11, 9), 20);
+        due("spans(10, 11)", x.spans(10, 11), 0);
+        due("order()", x.order(), 0);
+        due("groups()", x.groups(), 11);
     }
 
     private static void promise26() {
@@ -1242,6 +1388,10 @@ public final class PromisesTest {
         due("group(0, 3)", x.group(0, 3), 6283185L * 900 - 600000000);
         x.part(0);
         due("group(0, 3)", x.group(0, 3), 6283185L * 1600 - 400000000);
+        x.part(1);
+        due("circle(0, 50)", x.circle(0, 50) ? 1 : 0, 1);
+        x.hand(0, 0, 1, 2, 1);
+        due("group(1, 3)", x.group(1, 3), 6283185L * 2500 - 400000000);
     }
 
     private static void promise28() {

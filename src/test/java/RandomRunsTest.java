@@ -159,8 +159,9 @@ public final class RandomRunsTest {
         if (due < 0) {
             return;
         }
-        switch (pick(5)) {
+        switch (pick(run % 5 == 0 ? 8 : 6)) {
             case 0: regular(due); break;
+            case 7: zigzag(due); break;
             case 1: closeUp(due, 1 + pick(5)); break;
             default: counterpart(due); break;
         }
@@ -186,6 +187,16 @@ public final class RandomRunsTest {
         int first = pick(24);
         for (int k = 0; k < sides; k++) {
             addStep(sherd, (first + k * (24 / sides)) % 24, length);
+        }
+    }
+
+    /** Twenty steps up and down, so that a row may cut them all. */
+    private void zigzag(int sherd) {
+        int first = pick(24);
+        int length = 1 + pick(12);
+        for (int k = 0; k < 20; k++) {
+            int up = k < 10 ? 5 : 7;
+            addStep(sherd, (first + (k % 2 == 0 ? up : 24 - up)) % 24, length);
         }
     }
 
