@@ -1216,6 +1216,10 @@ public final class PromisesTest {
         SherdTable z = oneSpanApart();
         closed(z, 0, 0, 12, 11, 6, 13, 6);
         due("order(), three that fit alike", z.order(), 0);
+        SherdTable w = oneSpanApart();
+        open(w, 0, 0, 12, 11, 6, 13, 6);
+        due("order(), the third one is open", w.order(), 1);
+        due("joined(0, 2)", w.joined(0, 2), 1);
         orderGoesOn();
     }
 
