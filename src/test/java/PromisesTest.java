@@ -1,16 +1,5 @@
-import java.util.NoSuchElementException;
-
 /** For each promise of the document ordinary inputs, the edges that it names, and wrong inputs. */
-public final class PromisesTest {
-    private static final int MIN = Integer.MIN_VALUE;
-    private static final int MAX = Integer.MAX_VALUE;
-    private static final long OUTSIDE = -1000001L;
-    private static final long NO_ELEMENT = -1000002L;
-
-    private static int promise = 0;
-    private static int asked = 0;
-    private static int wrong = 0;
-
+public final class PromisesTest extends Bench {
     public static void main(String[] args) {
         promise1();
         promise2();
@@ -40,101 +29,11 @@ public final class PromisesTest {
         promise26();
         promise27();
         promise28();
-        System.out.println(asked + " answers looked at");
-        System.out.println(wrong == 0 ? "all answers are as due" : wrong + " answers are not as due");
-        if (wrong != 0) {
-            System.exit(1);
-        }
-    }
-
-    private static void due(String call, long got, long want) {
-        asked++;
-        if (got != want) {
-            wrong++;
-            System.out.println("promise " + promise + ": " + call + " answered " + got + ", due is " + want);
-        }
-    }
-
-    private static void yes(String call, boolean got) {
-        due(call, got ? 1 : 0, 1);
-    }
-
-    private static void no(String call, boolean got) {
-        due(call, got ? 1 : 0, 0);
-    }
-
-    private static long look(SherdTable x, int sherd, int what) {
-        try {
-            return x.look(sherd, what);
-        } catch (IndexOutOfBoundsException e) {
-            return OUTSIDE;
-        } catch (NoSuchElementException e) {
-            return NO_ELEMENT;
-        }
-    }
-
-    private static long edge(SherdTable x, int sherd, int step, int what) {
-        try {
-            return x.edge(sherd, step, what);
-        } catch (IndexOutOfBoundsException e) {
-            return OUTSIDE;
-        } catch (NoSuchElementException e) {
-            return NO_ELEMENT;
-        }
-    }
-
-    /** Steps are told as direction, length, direction, length and so on; the edge is left open. */
-    private static int open(SherdTable x, int kind, int... steps) {
-        int sherd = x.sherd(kind);
-        for (int k = 0; k + 1 < steps.length; k += 2) {
-            due("step " + k / 2 + " of sherd " + sherd, x.step(sherd, steps[k], steps[k + 1]), k / 2 + 1);
-        }
-        return sherd;
-    }
-
-    private static int closed(SherdTable x, int kind, int... steps) {
-        int sherd = open(x, kind, steps);
-        due("close of sherd " + sherd, x.close(sherd), 0);
-        return sherd;
-    }
-
-    private static int square(SherdTable x, int kind, int side) {
-        return closed(x, kind, 0, side, 6, side, 12, side, 18, side);
-    }
-
-    private static int triangle(SherdTable x, int kind, int side) {
-        return closed(x, kind, 0, side, 8, side, 16, side);
-    }
-
-    private static int twelveSided(SherdTable x, int kind, int side) {
-        int sherd = x.sherd(kind);
-        for (int k = 0; k < 12; k++) {
-            x.step(sherd, 2 * k, side);
-        }
-        due("close of sherd " + sherd, x.close(sherd), 0);
-        return sherd;
-    }
-
-    private static int bits(double value) {
-        return Float.floatToRawIntBits((float) value);
-    }
-
-    private static SherdTable squares(int count) {
-        SherdTable x = new SherdTable();
-        for (int k = 0; k < count; k++) {
-            square(x, 0, 10);
-        }
-        return x;
-    }
-
-    private static void where(SherdTable x, int sherd, int turn, int atX, int atY) {
-        due("look(" + sherd + ", 6)", look(x, sherd, 6), turn);
-        due("look(" + sherd + ", 7)", look(x, sherd, 7), atX);
-        due("look(" + sherd + ", 8)", look(x, sherd, 8), atY);
+        end();
     }
 
     private static void promise1() {
-        promise = 1;
+        place = "promise 1";
         SherdTable x = new SherdTable();
         due("groups()", x.groups(), 0);
         due("undo(0)", x.undo(0), 0);
@@ -158,7 +57,7 @@ public final class PromisesTest {
     }
 
     private static void promise2() {
-        promise = 2;
+        place = "promise 2";
         SherdTable x = new SherdTable();
         for (int bad : new int[] {-1, 6, 7, MIN, MAX}) {
             due("sherd(" + bad + ")", x.sherd(bad), -1);
@@ -176,7 +75,7 @@ public final class PromisesTest {
     }
 
     private static void promise3() {
-        promise = 3;
+        place = "promise 3";
         SherdTable x = new SherdTable();
         due("step(0, 0, 1)", x.step(0, 0, 1), -1);
         x.sherd(0);
@@ -205,7 +104,7 @@ public final class PromisesTest {
     }
 
     private static void promise4() {
-        promise = 4;
+        place = "promise 4";
         SherdTable x = new SherdTable();
         for (int bad : new int[] {-1, 0, MIN, MAX}) {
             due("close(" + bad + ")", x.close(bad), -1);
@@ -235,7 +134,7 @@ public final class PromisesTest {
     }
 
     private static void promise5() {
-        promise = 5;
+        place = "promise 5";
         SherdTable x = new SherdTable();
         no("mark(0, 0, true)", x.mark(0, 0, true));
         for (int kind = 0; kind < 6; kind++) {
@@ -269,7 +168,7 @@ public final class PromisesTest {
     }
 
     private static void promise6() {
-        promise = 6;
+        place = "promise 6";
         SherdTable x = new SherdTable();
         no("paint(0, 0, 1)", x.paint(0, 0, 1));
         for (int kind = 0; kind < 6; kind++) {
@@ -303,7 +202,7 @@ public final class PromisesTest {
     }
 
     private static void promise7() {
-        promise = 7;
+        place = "promise 7";
         SherdTable x = new SherdTable();
         no("thick(0, 0)", x.thick(0, 0));
         x.sherd(0);
@@ -350,7 +249,7 @@ public final class PromisesTest {
     }
 
     private static void promise8() {
-        promise = 8;
+        place = "promise 8";
         SherdTable x = new SherdTable();
         no("circle(0, 1)", x.circle(0, 1));
         for (int kind = 0; kind < 6; kind++) {
@@ -374,7 +273,7 @@ public final class PromisesTest {
     }
 
     private static void promise9() {
-        promise = 9;
+        place = "promise 9";
         SherdTable x = squares(2);
         int[] low = {1, 0, 0, 0};
         int[] high = {100, 10000, 100000, 1000};
@@ -441,7 +340,7 @@ public final class PromisesTest {
     }
 
     private static void promise10() {
-        promise = 10;
+        place = "promise 10";
         SherdTable x = new SherdTable();
         square(x, 1, 10);
         open(x, 5, 3, 4);
@@ -507,7 +406,7 @@ public final class PromisesTest {
     }
 
     private static void promise11() {
-        promise = 11;
+        place = "promise 11";
         SherdTable x = new SherdTable();
         due("edge(0, 0, 0)", edge(x, 0, 0, 0), OUTSIDE);
         closed(x, 4, 23, 12, 11, 11, 5, 1);
@@ -534,7 +433,7 @@ public final class PromisesTest {
     }
 
     private static void promise12() {
-        promise = 12;
+        place = "promise 12";
         SherdTable x = new SherdTable();
         due("area(0, 0)", x.area(0, 0), -1);
         square(x, 0, 10);
@@ -555,7 +454,7 @@ public final class PromisesTest {
     }
 
     private static void promise13() {
-        promise = 13;
+        place = "promise 13";
         SherdTable x = new SherdTable();
         square(x, 0, 10);
         square(x, 0, 10);
@@ -666,7 +565,7 @@ public final class PromisesTest {
     }
 
     private static void promise14() {
-        promise = 14;
+        place = "promise 14";
         SherdTable x = new SherdTable();
         square(x, 5, 5);
         square(x, 0, 6);
@@ -693,7 +592,7 @@ public final class PromisesTest {
     }
 
     private static void promise15() {
-        promise = 15;
+        place = "promise 15";
         SherdTable x = squares(2);
         open(x, 0, 0, 1);
         due("spans(0, 1)", x.spans(0, 1), 16);
@@ -718,7 +617,7 @@ public final class PromisesTest {
 
     /** A staircase of 4, 3, 4 and its counterpart: one SPAN of three pairs, not also its ends. */
     private static void promise16() {
-        promise = 16;
+        place = "promise 16";
         SherdTable x = new SherdTable();
         due("span(0, 0) ahead of any", x.span(0, 0), -1);
         closed(x, 0, 0, 4, 6, 3, 0, 4, 18, 9, 12, 8, 6, 6);
@@ -775,7 +674,7 @@ public final class PromisesTest {
     }
 
     private static void promise17() {
-        promise = 17;
+        place = "promise 17";
         SherdTable x = new SherdTable();
         int[] kinds = {2, 2, 1, 1, 1, 0};
         for (int kind : kinds) {
@@ -809,7 +708,7 @@ public final class PromisesTest {
     }
 
     private static void promise18() {
-        promise = 18;
+        place = "promise 18";
         SherdTable x = new SherdTable();
         due("apart(0)", x.apart(0), -1);
         int[] kinds = {2, 0, 2, 2, 1, 1, 0};
@@ -837,7 +736,7 @@ public final class PromisesTest {
     }
 
     private static void promise19() {
-        promise = 19;
+        place = "promise 19";
         SherdTable x = squares(3);
         open(x, 0, 0, 10, 6, 10, 12, 10);
         for (int bad : new int[] {-1, 4, MIN, MAX}) {
@@ -964,7 +863,7 @@ public final class PromisesTest {
     }
 
     private static void promise20() {
-        promise = 20;
+        place = "promise 20";
         SherdTable x = new SherdTable();
         closed(x, 0, 5, 12, 13, 12, 21, 12);
         square(x, 1, 3);
@@ -1006,7 +905,7 @@ public final class PromisesTest {
     }
 
     private static void promise21() {
-        promise = 21;
+        place = "promise 21";
         SherdTable x = squares(4);
         due("part(0)", x.part(0), -1);
         x.hand(0, 0, 1, 2, 1);
@@ -1032,7 +931,7 @@ public final class PromisesTest {
     }
 
     private static void promise22() {
-        promise = 22;
+        place = "promise 22";
         SherdTable x = squares(3);
         due("join(2, 0, 1, 3, 18)", x.join(2, 0, 1, 3, 18), -2);
         due("join(2, 0, 1, 3, 6)", x.join(2, 0, 1, 3, 6), 0);
@@ -1057,7 +956,7 @@ public final class PromisesTest {
     }
 
     private static void promise23() {
-        promise = 23;
+        place = "promise 23";
         SherdTable x = squares(2);
         due("round() ahead of any", x.round(), -1);
         due("join(0, 0, 1, 2, 0)", x.join(0, 0, 1, 2, 0), 0);
@@ -1106,7 +1005,7 @@ public final class PromisesTest {
     }
 
     private static void promise24() {
-        promise = 24;
+        place = "promise 24";
         SherdTable x = squares(6);
         for (int what = -1; what < 4; what++) {
             due("lies(" + what + ") ahead of any", x.lies(what), -1);
@@ -1200,7 +1099,7 @@ public final class PromisesTest {
     }
 
     private static void promise25() {
-        promise = 25;
+        place = "promise 25";
         SherdTable x = squares(2);
         due("order(), none is SURE", x.order(), 0);
         due("groups()", x.groups(), 2);
@@ -1312,7 +1211,7 @@ public final class PromisesTest {
     }
 
     private static void promise26() {
-        promise = 26;
+        place = "promise 26";
         SherdTable x = new SherdTable();
         due("groups()", x.groups(), 0);
         x.sherd(0);
@@ -1336,7 +1235,7 @@ public final class PromisesTest {
     }
 
     private static void promise27() {
-        promise = 27;
+        place = "promise 27";
         SherdTable x = new SherdTable();
         due("group(0, 0)", x.group(0, 0), -1);
         square(x, 0, 10);
@@ -1399,7 +1298,7 @@ public final class PromisesTest {
     }
 
     private static void promise28() {
-        promise = 28;
+        place = "promise 28";
         SherdTable x = squares(5);
         due("undo(0)", x.undo(0), 0);
         due("undo(1)", x.undo(1), -1);
