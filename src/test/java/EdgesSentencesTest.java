@@ -192,6 +192,33 @@ public final class EdgesSentencesTest extends Bench {
         due("edge(0, 19, 0)", edge(x, 0, 19, 0), 12);
     }
 
+    /** As many sherds as there may be, each with as many steps: just step 19 of the last two is a BREAK. */
+    @Sentence(at = "Terms 1", says = "An EDGE is a row of steps, 3 .. 20")
+    static void terms1_twelveSherdsOfTwentySteps() {
+        SherdTable x = new SherdTable();
+        for (int s = 0; s < 12; s++) {
+            x.sherd(4);
+            for (int k = 0; k < 20; k++) {
+                x.step(s, k / 5 * 6, 12);
+            }
+            due("close(" + s + ")", x.close(s), 0);
+        }
+        yes("mark(10, 19, true)", x.mark(10, 19, true));
+        yes("mark(11, 19, true)", x.mark(11, 19, true));
+        due("spans(10, 11)", x.spans(10, 11), 1);
+        spanIs(x, 0, 19, 19, 12, 1, 12, 0);
+        due("order()", x.order(), 1);
+        where(x, 11, 12, 0, 12000);
+        due("look(11, 9)", look(x, 11, 9), 1);
+        due("edge(11, 19, 4)", edge(x, 11, 19, 4), 0);
+        due("group(11, 2)", x.group(11, 2), 14400000000L);
+        due("group(11, 3)", x.group(11, 3), -1);
+        due("hand(0, 0, 1, 0, 20)", x.hand(0, 0, 1, 0, 20), 1);
+        due("look(1, 9)", look(x, 1, 9), 20);
+        due("apart(11)", x.apart(11), 0);
+        due("groups()", x.groups(), 10);
+    }
+
     @Sentence(at = "Terms 1", says = "it begins at 0, 0")
     static void terms1_anEdgeBeginsAt0() {
         SherdTable x = new SherdTable();
@@ -345,12 +372,15 @@ public final class EdgesSentencesTest extends Bench {
         SherdTable x = new SherdTable();
         closed(x, kind, 0, 2, 9, 1, 4, 4, 16, 5);
         closed(x, 0, 15, 4, 22, 1, 13, 2, 3, 5);
+        for (int k = 0; kind == 4 && k < 4; k++) {
+            x.mark(0, k, true);
+        }
         return x;
     }
 
     @Sentence(at = "Terms 1", says = "600 thousandths of others")
     static void terms1_601ApartIsBeyondTheSlackOfOthers() {
-        for (int kind = 0; kind < 4; kind++) {
+        for (int kind = 0; kind < 5; kind++) {
             due("fit, KIND " + kind, apartBy601(kind).fit(0, 0, 1, 2, 0), 2);
         }
     }

@@ -195,6 +195,21 @@ public final class FitSentencesTest extends Bench {
         due("fitted(1)", x.fitted(1), 1000);
     }
 
+    /** A step of 1 on each of three: 17 turns, the outermost two of which are just 1500 apart in X, or in Y. */
+    @Sentence(at = "Terms 2", says = "no farther apart, in X and in Y, than the greater SLACK of both")
+    static void terms2_spansWhoseFirstPairIsAsFarApartAsCanBe() {
+        for (int turn = 0; turn < 24; turn += 6) {
+            SherdTable x = new SherdTable();
+            closed(x, 1, turn, 1, (turn + 8) % 24, 1, (turn + 16) % 24, 1);
+            triangle(x, 5, 1);
+            x.mark(0, 1, true);
+            x.mark(0, 2, true);
+            yes("tell(0, 1)", x.tell(0, 1));
+            due("spans(0, 1), turned by " + turn, x.spans(0, 1), 51);
+            due("span(49, 5)", x.span(49, 5), 1500);
+        }
+    }
+
     @Sentence(at = "Terms 2", says = "LONG is the lesser sum of the LENGTHS of both sides' n steps")
     static void terms2_longIsTheLesserSum() {
         SherdTable x = two(5, 7, 0, 8);
@@ -289,6 +304,15 @@ public final class FitSentencesTest extends Bench {
         due("fit(0, 1, 1, 0, 0)", x.fit(0, 1, 1, 0, 0), 3);
         due("fit(0, 2, 1, 3, 0)", x.fit(0, 2, 1, 3, 0), 2);
         due("join(0, 2, 1, 3, 0)", x.join(0, 2, 1, 3, 0), -2);
+    }
+
+    @Sentence(at = "Terms 2", says = "if with i - 1, j + 1, t not n + 1 or more pairs FIT")
+    static void terms2_behindTheLastStepOfBButOneIsTheLast() {
+        SherdTable x = allRound(0, 0);
+        due("hand(0, 0, 1, 1, 1)", x.hand(0, 0, 1, 1, 1), 0);
+        yes("tell(0, 5)", x.tell(0, 5));
+        due("fit(0, 3, 1, 2, 0)", x.fit(0, 3, 1, 2, 0), 1);
+        due("join(0, 3, 1, 2, 0)", x.join(0, 3, 1, 2, 0), -2);
     }
 
     /** From one back on two more pairs FIT, not just one: the first pair's distance makes room for the last. */

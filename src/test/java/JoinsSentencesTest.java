@@ -269,6 +269,53 @@ public final class JoinsSentencesTest extends Bench {
         pointsIn(144, 18, 12, 12, 12, 6, 12, 0, 12);
     }
 
+    /** Sides at 500 and at 2500: the points on the left one are IN, those on the right one are not. */
+    @Sentence(at = "Terms 3", says = "the points x + 500, y + 500, x and y multiples of 1000")
+    static void terms3_sidesThatGoThroughPoints() {
+        pointsIn(4, 4, 1, 0, 2, 6, 2, 12, 2, 18, 2, 16, 1);
+    }
+
+    @Sentence(at = "Terms 3", says = "A point is IN if an odd number of the ways from place to place")
+    static void terms3_pointsOfTwentySteps() {
+        pointsIn(100, 0, 2, 0, 2, 0, 2, 0, 2, 0, 2, 6, 2, 6, 2, 6, 2, 6, 2, 6, 2,
+                12, 2, 12, 2, 12, 2, 12, 2, 12, 2, 18, 2, 18, 2, 18, 2, 18, 2, 18, 2);
+    }
+
+    /** A row that all twenty steps cross. */
+    @Sentence(at = "Terms 3", says = "A point is IN if an odd number of the ways from place to place")
+    static void terms3_pointsOfARowThatIsCrossedTwentyTimes() {
+        pointsIn(142, 4, 10, 18, 10, 6, 11, 18, 9, 5, 8, 20, 10, 6, 6, 20, 8, 5, 12, 20, 12,
+                8, 4, 18, 12, 8, 12, 16, 11, 6, 10, 16, 6, 8, 8, 16, 11, 6, 8, 17, 4);
+    }
+
+    /** A sherd with a notch and one without: the points in the notch are IN just one of them. */
+    @Sentence(at = "Terms 3", says = "A point is IN if an odd number of the ways from place to place")
+    static void terms3_pointsInANotchAreNotIn() {
+        int[] notched = {0, 5, 6, 3, 12, 2, 18, 2, 12, 1, 6, 2, 12, 2, 18, 3};
+        int[] whole = {18, 3, 12, 5, 6, 3, 0, 5};
+        int[] wholeToo = {0, 5, 6, 3, 12, 5, 18, 3};
+        int[] notchedBack = {6, 3, 0, 2, 18, 2, 0, 1, 6, 2, 0, 2, 18, 3, 12, 5};
+        notchedOnWhole(notched, whole, 7, 1);
+        notchedOnWhole(wholeToo, notchedBack, 3, 7);
+    }
+
+    private static void notchedOnWhole(int[] one, int[] other, int left, int facing) {
+        SherdTable x = new SherdTable();
+        closed(x, 0, one);
+        closed(x, 0, other);
+        square(x, 0, 3);
+        yes("tell(0, 1)", x.tell(0, 1));
+        due("hand(0, 0, 1, " + facing + ", 1)", x.hand(0, 0, 1, facing, 1), 0);
+        due("join of a third one", x.join(0, left, 2, 1, 0), -6);
+        liesIs(x, 0, 1, 13);
+    }
+
+    /** The end is the highest place: three points are IN by the way back from there. */
+    @Sentence(at = "Terms 3", says = "the ways from place to place, the last one to the first")
+    static void terms3_theEndIsTheHighestPlace() {
+        pointsIn(123, 12, 10, 18, 10, 0, 12, 6, 12);
+    }
+
     /** A place at 866, 500 on the right of the point 500, 500: just one of the two ways there crosses the row. */
     @Sentence(at = "Terms 3", says = "have y0 <= y < y1 or y1 <= y < y0")
     static void terms3_aPlaceInTheRowIsCrossedOnce() {
@@ -398,6 +445,17 @@ public final class JoinsSentencesTest extends Bench {
         due("join of a Base and one that is none", x.join(1, 1, 2, 3, 0), -3);
         due("join of two Bases", x.join(1, 1, 3, 3, 0), -3);
         unchanged(before, x);
+    }
+
+    /** The greater one's GROUP is that of sherd 0, the least. */
+    @Sentence(at = "Terms 3", says = "3 any sherd of the one's GROUP and any of the other's (of unlike GROUPS) are of NO ONE POT")
+    static void terms3_refusal3ByTheLeastSherd() {
+        SherdTable x = new SherdTable();
+        square(x, 2, 10);
+        square(x, 2, 10);
+        square(x, 0, 10);
+        due("join(0, 0, 2, 2, 0)", x.join(0, 0, 2, 2, 0), 0);
+        due("join(1, 1, 2, 3, 0)", x.join(1, 1, 2, 3, 0), -3);
     }
 
     /** A GROUP that has two Bases, by hand, is joined to others all the same, and within itself. */
