@@ -1127,7 +1127,7 @@ public final class SherdTable {
                     ys[root] = 0;
                     groupCount++;
                 }
-                while (next < laid) {
+                while (next < laid && next < MOST_SHERDS) {
                     layNeighboursOf(inOrder[next], sherds, joins);
                     next++;
                 }

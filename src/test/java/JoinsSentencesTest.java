@@ -299,6 +299,45 @@ public final class JoinsSentencesTest extends Bench {
         notchedOnWhole(wholeToo, notchedBack, 3, 7);
     }
 
+    /** A small one lies on the end of a wide one that is far from the wide one's beginning. */
+    @Sentence(at = "Terms 3", says = "turned and laid as they are")
+    static void terms3_pointsFarFromTheBeginning() {
+        int[] wide = {6, 3, 12, 12, 18, 3, 0, 12};
+        int[] small = {18, 3, 12, 3, 6, 3, 0, 3};
+        SherdTable x = layByHand(wide, 3, small, 1);
+        due("join of a third one", x.join(0, 1, 2, 0, 0), -6);
+        liesIs(x, 0, 1, 9);
+        int[] smallToo = {0, 3, 6, 3, 12, 3, 18, 3};
+        int[] wideBack = {18, 3, 12, 12, 6, 3, 0, 12};
+        SherdTable y = layByHand(smallToo, 0, wideBack, 1);
+        due("join of a third one", y.join(1, 3, 2, 0, 12), -6);
+        liesIs(y, 0, 1, 9);
+    }
+
+    /** Just the end of the greater one, on its right or on its left, is under the lesser one. */
+    @Sentence(at = "Terms 3", says = "the ways from place to place, the last one to the first")
+    static void terms3_theEndIsTheOutermostPlace() {
+        int[] right = {6, 12, 12, 10, 18, 10, 0, 12};
+        SherdTable x = layByHand(new int[] {12, 1, 14, 1, 22, 1, 3, 1}, 0, right, 3);
+        due("join of a third one", x.join(1, 0, 2, 0, 18), -6);
+        liesIs(x, 0, 1, 1);
+        int[] left = {6, 12, 0, 10, 18, 10, 12, 12};
+        SherdTable y = layByHand(new int[] {0, 1, 22, 1, 14, 1, 9, 1}, 0, left, 3);
+        due("join of a third one", y.join(1, 0, 2, 0, 18), -6);
+        liesIs(y, 0, 1, 2);
+    }
+
+    /** Two are laid by hand; a third one with sides of 12, which FITS one of them, is refused for the points they share. */
+    private static SherdTable layByHand(int[] one, int i, int[] other, int j) {
+        SherdTable x = new SherdTable();
+        closed(x, 0, one);
+        closed(x, 0, other);
+        square(x, 0, 12);
+        yes("tell(3, 0)", x.tell(3, 0));
+        due("hand(0, " + i + ", 1, " + j + ", 1)", x.hand(0, i, 1, j, 1), 0);
+        return x;
+    }
+
     private static void notchedOnWhole(int[] one, int[] other, int left, int facing) {
         SherdTable x = new SherdTable();
         closed(x, 0, one);

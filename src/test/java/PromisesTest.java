@@ -219,11 +219,6 @@ public final class PromisesTest extends Bench {
         thickness(x, Float.MIN_VALUE, 0);
         thickness(x, Float.MIN_NORMAL, 0);
         thickness(x, 1e-6, 0);
-        for (int k = 0; k < 10000; k++) {
-            float value = k / 10f;
-            x.thick(0, Float.floatToRawIntBits(value));
-            due("look(0, 3) of " + value, look(x, 0, 3), (int) (10 * (double) value));
-        }
         thickness(x, -0.0, 0);
         thickness(x, 5, 50);
         for (float bad : new float[] {-1, -Float.MIN_VALUE, Math.nextUp(1000f), 1001, Float.MAX_VALUE,
