@@ -299,6 +299,19 @@ public final class JoinsSentencesTest extends Bench {
         notchedOnWhole(wholeToo, notchedBack, 3, 7);
     }
 
+    /** The way back goes from 866, 500 to -669, 501: it crosses the row of 500 at its very end. */
+    @Sentence(at = "Terms 3", says = "the ways from place to place, the last one to the first")
+    static void terms3_aWayBackThatRisesByOneThousandth() {
+        SherdTable x = new SherdTable();
+        closed(x, 0, 2, 1, 18, 1, 12, 1);
+        closed(x, 0, 18, 9, 3, 5, 8, 4, 6, 2);
+        closed(x, 0, 18, 2, 20, 4, 15, 5, 6, 9);
+        due("hand(0, 1, 1, 3, 1)", x.hand(0, 1, 1, 3, 1), 0);
+        where(x, 1, 0, -669, 501);
+        due("join(1, 0, 2, 3, 0)", x.join(1, 0, 2, 3, 0), -6);
+        liesIs(x, 1, 2, 21);
+    }
+
     /** A small one lies on the end of a wide one that is far from the wide one's beginning. */
     @Sentence(at = "Terms 3", says = "turned and laid as they are")
     static void terms3_pointsFarFromTheBeginning() {
