@@ -250,7 +250,7 @@ public final class RandomRunsTest {
     }
 
     private int anySherd() {
-        return pick(25) == 0 ? pick(16) - 2 : pick(oracle.pieces.size());
+        return pick(25) == 0 ? pick(16) - 2 : pick(Math.max(1, oracle.pieces.size()));
     }
 
     private int anyStep(int sherd) {
